@@ -370,7 +370,7 @@ public final class PulseRemote {
         if (!isSlot(slot)) {
             return INVALID_ARGUMENT;
         }
-        findPresses(slot);
+        presses.find(state, slot, frames, decoder);
         return presses.listed;
     }
 
@@ -378,7 +378,7 @@ public final class PulseRemote {
         if (!isSlot(slot) || press < 0 || !inRange(what, 0, 3)) {
             return INVALID_ARGUMENT;
         }
-        findPresses(slot);
+        presses.find(state, slot, frames, decoder);
         if (press >= presses.listed) {
             return NONE;
         }
@@ -394,7 +394,7 @@ public final class PulseRemote {
         if (!isSlot(slot)) {
             return INVALID_ARGUMENT;
         }
-        findPresses(slot);
+        presses.find(state, slot, frames, decoder);
         return presses.strays;
     }
 
@@ -530,11 +530,6 @@ public final class PulseRemote {
             }
         }
         return worst;
-    }
-
-    private void findPresses(int slot) {
-        frames.split(state.trainAt(slot), state.gap);
-        presses.find(frames, decoder, state);
     }
 
     /** The least tolerance from least on with which the frame decodes, or NONE. */
@@ -931,32 +926,33 @@ public final class PulseRemote {
         }
 
         void decode(Table table, FrameList frames, int frame, int newTolerance) {
+            tolerance = newTolerance;
             protocol = NONE;
             code = NONE;
-            size = frames.sizeOf(frame);
-            if (size > MAX_FRAME) {
+            if (!take(frames, frame)) {
                 return;
             }
-            for (int i = 0; i < size; i++) {
-                durations[i] = frames.durationAt(frame, i);
-            }
-            tolerance = newTolerance;
-            protocol = protocolOfCode(table);
-            if (protocol == NONE) {
-                protocol = protocolOfShortFrame(table);
-            }
-        }
-
-        /** Finds the code, too. */
-        private int protocolOfCode(Table table) {
             for (int i = 0; i < table.protocolCount; i++) {
                 Protocol tried = table.protocolAt(i);
                 code = tried.kind == PHASE ? phaseCode(tried) : plainCode(tried);
                 if (code != NONE) {
-                    return i;
+                    protocol = i;
+                    return;
                 }
             }
-            return NONE;
+            protocol = protocolOfShortFrame(table);
+        }
+
+        /** Takes a frame's durations; false if they are more than any code has. */
+        private boolean take(FrameList frames, int frame) {
+            size = frames.sizeOf(frame);
+            if (size > MAX_FRAME) {
+                return false;
+            }
+            for (int i = 0; i < size; i++) {
+                durations[i] = frames.durationAt(frame, i);
+            }
+            return true;
         }
 
         private int protocolOfShortFrame(Table table) {
@@ -1071,7 +1067,8 @@ public final class PulseRemote {
         private int latestProtocol;
         private int latestCode;
 
-        void find(FrameList frames, Decoder decoder, State state) {
+        void find(State state, int slot, FrameList frames, Decoder decoder) {
+            frames.split(state.trainAt(slot), state.gap);
             listed = 0;
             strays = 0;
             boolean inPress = false;
@@ -1223,15 +1220,15 @@ public final class PulseRemote {
         /** Makes a protocol of what was gathered; false if none comes of it. */
         boolean conclude() {
             if (marks.clusterCount == 1 && spaces.clusterCount == 2) {
-                return conclude(DISTANCE, (size - 3) / 2, marks, spaces);
+                return makeProtocol(DISTANCE, (size - 3) / 2, marks, spaces);
             }
             if (marks.clusterCount == 2 && spaces.clusterCount == 1) {
-                return conclude(WIDTH, (size - 1) / 2, spaces, marks);
+                return makeProtocol(WIDTH, (size - 1) / 2, spaces, marks);
             }
             return false;
         }
 
-        private boolean conclude(int newKind, int newBits, Clusters fixed, Clusters coding) {
+        private boolean makeProtocol(int newKind, int newBits, Clusters fixed, Clusters coding) {
             kind = newKind;
             bits = newBits;
             a = fixed.firstMean;
@@ -1462,10 +1459,10 @@ public final class PulseRemote {
         }
 
         private int kindAt(int index) {
-            if (index >= size) {
+            if (index < 0 || index >= size || index >= MAX_TEXT) {
                 return END;
             }
-            char sign = at(index);
+            char sign = characters[index];
             if (sign >= 'a' && sign <= 'z') {
                 return WORD;
             }
