@@ -1074,7 +1074,8 @@ public final class PulseRemote {
             boolean inPress = false;
             for (int frame = 0; frame < frames.total; frame++) {
                 decoder.decode(state.table, frames, frame, state.tolerance);
-                if (inPress && frames.spaceBefore(frame) <= state.hold && continuesLatest(decoder, state.table)) {
+                boolean isNear = frames.spaceBefore(frame) <= state.hold;
+                if (inPress && isNear && continuesLatest(decoder, state.table)) {
                     countLatest();
                 } else if (decoder.isCode()) {
                     begin(decoder);

@@ -1060,6 +1060,11 @@ public final class PromiseTest {
         due("its count", x.press(0, 29, 2), 1);
         due("no other one", x.press(0, 30, 1), NONE);
         due("frames that continue one that is not listed are no strays", x.strayCount(0), 0);
+        x.clear(0);
+        for (int i = 0; i < 31; i++) {
+            x.send(0, 0, i < 30 ? i % 2 : 1, 20000);
+        }
+        due("the last listed one is held", x.press(0, 29, 2), 2);
     }
 
     private static void promise28Press() {
@@ -1266,6 +1271,13 @@ public final class PromiseTest {
         y.clear(0);
         y.send(0, 0, 0, 1);
         due("so is this", y.explain(0, 50, 0), 0);
+        PulseRemote z = withProtocol(WIDTH, 2, 0, WHOLE);
+        z.addButton(0, 1);
+        z.send(0, 0, 2, 1);
+        z.addButton(0, 2);
+        due("a button", z.explain(0, 50, 0), 1);
+        z.undo();
+        due("a button that is no more", z.explain(0, 50, 0), NONE);
     }
 
     private static void promise32Ghosts() {
@@ -1314,6 +1326,13 @@ public final class PromiseTest {
         x.addButton(0, 0);
         x.addButton(1, 0);
         due("all read as themselves", x.ghosts(60000), 0);
+        x = withProtocol(WIDTH, 2, 0, WHOLE);
+        add(x, WIDTH, 2, 1, WHOLE);
+        x.addButton(0, 2);
+        x.addButton(1, 1);
+        due("its frame reads as 2 of protocol 0", x.ghosts(60000), 1);
+        x.undo();
+        due("a button that is no more", x.ghosts(60000), 0);
     }
 
     /** Ghosts of one protocol counted by hand: with overlay() in slot 0 and frame(). */
