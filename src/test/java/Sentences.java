@@ -200,6 +200,27 @@ abstract class Sentences {
         }
     }
 
+    /** What is read before a change does not show in what is read after it. */
+    static void readAnew(Setup setup, Setup change) {
+        for (int slot = 0; slot < 3; slot++) {
+            List<Integer> shown = new ArrayList<>();
+            PulseRemote x = made(setup);
+            for (int read = 0; read < 3; read++) {
+                decoded(x, read, new ArrayList<>());
+            }
+            change.on(x);
+            decoded(x, slot, shown);
+            List<Integer> fresh = new ArrayList<>();
+            decoded(made(setup.then(change)), slot, fresh);
+            checks++;
+            if (!shown.equals(fresh)) {
+                wrong++;
+                System.out.println(test + ", line " + line() + ": without the readings before and with them, slot "
+                        + slot + difference(fresh, shown));
+            }
+        }
+    }
+
     /** Where two views differ first. */
     private static String difference(List<Integer> before, List<Integer> after) {
         for (int i = 0; i < Math.min(before.size(), after.size()); i++) {
@@ -284,7 +305,8 @@ abstract class Sentences {
     }
 
     private static void decoded(PulseRemote x, int slot, List<Integer> shown) {
-        shown.addAll(List.of(x.frameCount(slot), x.pressCount(slot), x.strayCount(slot), x.neededTolerance(slot)));
+        shown.addAll(List.of(x.frameCount(slot), x.pressCount(slot), x.strayCount(slot), x.neededTolerance(slot),
+                x.clusters(slot, 0), x.clusters(slot, 1), x.explain(slot, 50, 2), x.ghosts(20000)));
         for (int i = 0; i < 8; i++) {
             for (int what = 0; what < 5; what++) {
                 shown.add(x.frame(slot, i, what));

@@ -156,6 +156,14 @@ public final class SentencesOfCollisionsTest extends Sentences {
         answers(longTrain(0, 199, 5).then(train(1, 60000)), x -> x.overlay(0, 1, 0), 1);
     }
 
+    @Says("Returns the number of durations then")
+    static void promise20_twoLongTrainsMayGiveAShortOne() {
+        Setup both = longTrain(0, 199, 5).then(longTrain(1, 199, 5));
+        answers(both, x -> x.overlay(0, 1, 0), 199);
+        answers(both, x -> x.overlay(0, 1, 4), 199);
+        answers(both, x -> x.overlay(0, 1, 5), 1);
+    }
+
     @Says("ILLEGAL_STATE if one of the trains is empty or ends with a space")
     static void promise20_anEmptyTrain() {
         refused(MARKS, x -> x.overlay(0, 2, 0), STATE);
@@ -227,6 +235,21 @@ public final class SentencesOfCollisionsTest extends Sentences {
         notExplained(BIT.then(train(0, 900, 450, 300)), 50);
         notExplained(train(0, 900, 450, 300), 50);
         notExplained(BIT.then(train(0, 900, 450, 300)).then(button(0, 1)).then(x -> x.undo()), 50);
+    }
+
+    @Says("searches for buttons i and j")
+    static void promise31_noButtonThatIsNoMore() {
+        Setup two = BIT.then(train(0, 900, 450, 300)).then(button(0, 0)).then(button(0, 1));
+        PulseRemote x = made(two.then(EXACT));
+        due("i", x.explain(0, 50, 0), 0);
+        due("j", x.explain(0, 50, 1), 1);
+        x.undo();
+        x.undo();
+        x.setTolerance(0);
+        due("i without button 1", x.explain(0, 50, 0), NONE);
+        due("j without button 1", x.explain(0, 50, 1), NONE);
+        readAnew(two, y -> y.undo());
+        readAnew(two.then(text("  ")), y -> y.load());
     }
 
     @Says("such that the train has the same number of durations as the collision of them")
@@ -323,10 +346,14 @@ public final class SentencesOfCollisionsTest extends Sentences {
                 x.addButton(0, code);
             }
         });
-        Setup laid = twelve.then(x -> x.send(0, 0, 11, 1)).then(x -> x.send(1, 0, 11, 1)).then(x -> x.overlay(0, 1, 2900));
-        explained(laid, 100, 11, 11, 2900);
-        Setup mixed = twelve.then(x -> x.send(0, 0, 11, 1)).then(x -> x.send(1, 0, 3, 1)).then(x -> x.overlay(0, 1, 2900));
-        explained(mixed, 100, 11, 3, 2900);
+        for (int j : new int[] {0, 3, 11}) {
+            Setup laid = twelve.then(x -> {
+                x.send(0, 0, 11, 1);
+                x.send(1, 0, j, 1);
+                x.overlay(0, 1, 2900);
+            });
+            explained(laid, 100, 11, j, 2900);
+        }
     }
 
     @Says("- `slot`: 0 to 2")
@@ -388,6 +415,16 @@ public final class SentencesOfCollisionsTest extends Sentences {
         ghosts(two.then(button(0, 0)), 60000, 2);
         ghosts(TWINS.then(button(0, 0)).then(button(0, 2)).then(button(1, 1)), 60000, 2);
         ghosts(TWINS.then(button(1, 1)).then(button(0, 0)).then(button(0, 2)), 60000, 2);
+    }
+
+    @Says("Counts the pairs of buttons i and j, i at most j")
+    static void promise32_noButtonThatIsNoMore() {
+        PulseRemote x = made(TWINS.then(button(0, 2)).then(button(1, 1)));
+        due("with both", x.ghosts(60000), 1);
+        x.undo();
+        due("without the second one", x.ghosts(60000), 0);
+        x.addButton(1, 2);
+        due("with one that reads as 1 of protocol 0", x.ghosts(60000), 0);
     }
 
     @Says("Counts the pairs of buttons i and j, i at most j")

@@ -2,6 +2,7 @@
 public final class SentencesOfDecodingTest extends Sentences {
     private static final Setup DISTANCE_2 = protocol(DISTANCE, 2, HIGHEST, WHOLE);
     private static final Setup WIDTH_2 = protocol(WIDTH, 2, HIGHEST, WHOLE);
+    private static final Setup WIDTH_3 = protocol(WIDTH, 3, HIGHEST, WHOLE);
     private static final Setup PHASE_2 = protocol(PHASE, 2, HIGHEST, WHOLE);
     private static final Setup SHORT_1 = protocol(DISTANCE, 2, HIGHEST, SHORT);
 
@@ -155,12 +156,12 @@ public final class SentencesOfDecodingTest extends Sentences {
     static void protocols_theProtocolWithTheSmallestNumber() {
         Setup frame = train(2, 900, 450, 100, 100, 300);
         for (int before = 0; before < 6; before++) {
-            Setup setup = times(before, protocol(WIDTH, 3, HIGHEST, WHOLE)).then(times(6 - before, WIDTH_2)).then(frame);
+            Setup setup = times(before, WIDTH_3).then(times(6 - before, WIDTH_2)).then(frame);
             answers(setup, x -> x.frame(2, 0, 2), before);
             answers(setup, x -> x.frame(2, 0, 3), 1);
         }
         answers(protocol(WIDTH, 2, LOWEST, WHOLE).then(WIDTH_2).then(frame), x -> x.frame(2, 0, 3), 2);
-        answers(times(6, protocol(WIDTH, 3, HIGHEST, WHOLE)).then(frame), x -> x.frame(2, 0, 2), NONE);
+        answers(times(6, WIDTH_3).then(frame), x -> x.frame(2, 0, 2), NONE);
     }
 
     @Says("(of several codes of the protocol, the one whose bits in the order of sending are "
@@ -242,6 +243,24 @@ public final class SentencesOfDecodingTest extends Sentences {
         decodesWhole(DISTANCE_2.then(PHASE_2).then(SHORT_1).then(longTrain(2, 199, 100)), NONE, 199);
     }
 
+    @Says("Otherwise it decodes to nothing.")
+    static void protocols_toNothingAlsoBehindAFrameThatDecodes() {
+        for (int size : new int[] {1, 33, 35, 37, 101}) {
+            PulseRemote x = made(SHORT_1.then(train(2, 900, 450, 100, 100, 100, 300, 100, 20000))
+                    .then(longTrain(2, size, 100)));
+            due("the code of frame 0", x.frame(2, 0, 3), 1);
+            for (int what = 2; what <= 4; what++) {
+                due("property " + what + " of frame 1", x.frame(2, 1, what), NONE);
+            }
+            due("the deviation of frame 0", x.deviation(2, 0), 0);
+            due("the deviation of frame 1", x.deviation(2, 1), NONE);
+            due("presses", x.pressCount(2), 1);
+            due("the count", x.press(2, 0, 2), 1);
+            due("strays", x.strayCount(2), 1);
+            due("the tolerance that is needed", x.neededTolerance(2), NONE);
+        }
+    }
+
     // ---- 12: setTolerance
 
     @Says("- `tolerance`: 0 to 40")
@@ -304,6 +323,19 @@ public final class SentencesOfDecodingTest extends Sentences {
                 due("frame " + frame + ", " + what, made(RICH).frame(0, frame, what), properties[frame][what]);
             }
         }
+    }
+
+    @Says("2 the protocol to which it decodes, 3 the code")
+    static void promise25_readAnewAfterEachChange() {
+        readAnew(RICH, x -> x.setTolerance(0));
+        readAnew(RICH, x -> x.clear(0));
+        readAnew(RICH, x -> x.distort(0, 30, 0));
+        readAnew(RICH, x -> x.setLengths(0, 1800, 450, 100, 100, 300));
+        readAnew(RICH, x -> x.setGap(60000));
+        readAnew(RICH, x -> x.setHold(60000));
+        readAnew(RICH.then(x -> x.clearText()), x -> x.load());
+        readAnew(RICH, x -> x.overlay(2, 0, 50));
+        readAnew(RICH.then(times(3, x -> x.undo())), times(3, x -> x.undo()));
     }
 
     @Says("INVALID_ARGUMENT if slot or what is out of range, or frame is negative")
@@ -376,6 +408,7 @@ public final class SentencesOfDecodingTest extends Sentences {
         deviates(DISTANCE_2, 3, 900, 450, 100, 100, 100, 301, 100);
         deviates(DISTANCE_2, 6, 900, 450, 100, 100, 100, 298, 100);
         deviates(DISTANCE_2, 197, 900, 539, 100, 100, 100, 241, 100);
+        deviates(DISTANCE_2.then(tolerance(40)), 396, 900, 450, 100, 100, 100, 419, 100);
         Setup longest = protocol(WIDTH, 1, HIGHEST, WHOLE, 20000, 20000, 50, 20000, 50).then(x -> x.setGap(60000));
         deviates(longest, 0, 20019, 20000, 20000);
         deviates(longest, 1, 20020, 20000, 20000);
@@ -478,6 +511,17 @@ public final class SentencesOfDecodingTest extends Sentences {
         needs(NONE, 900, 450, 100, 100, 100, 300, 100, 20000, 7, 20000, 900, 450, 100, 100, 100, 300, 100);
         needs(NONE, 7, 20000, 900, 450, 100, 100, 100, 300, 100);
         needs(NONE, 900, 450, 100, 100, 100, 300, 100, 20000, 7);
+    }
+
+    @Says("with which all frames of a train would decode to a protocol and a code")
+    static void promise30_toAnyProtocol() {
+        // 990 is 10 percent off protocol 0, and 1 percent off protocol 1
+        Setup two = protocol(WIDTH, 1, HIGHEST, WHOLE)
+                .then(protocol(WIDTH, 1, HIGHEST, WHOLE, 1000, 450, 100, 100, 300));
+        answers(two.then(train(2, 990, 450, 100)), x -> x.neededTolerance(2), 1);
+        answers(two.then(train(2, 980, 450, 100)), x -> x.neededTolerance(2), 2);
+        answers(two.then(train(2, 910, 450, 100)), x -> x.neededTolerance(2), 2);
+        answers(two.then(train(2, 990, 450, 100, 20000, 909, 450, 100)), x -> x.neededTolerance(2), 1);
     }
 
     @Says("or to a short frame.")

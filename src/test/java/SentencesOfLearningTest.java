@@ -345,6 +345,20 @@ public final class SentencesOfLearningTest extends Sentences {
         clusters(train(0, BY_WIDTH).then(times(6, x -> x.addProtocol(0, 1, 0, 0))), 2, 1);
     }
 
+    @Says("Counts the clusters of durations from which learn() would learn.")
+    static void promise07_notThoseOfATrainThatWasCountedBefore() {
+        PulseRemote x = made(train(0, BY_DISTANCE).then(train(1, BY_WIDTH)).then(train(2, 9, 9, 9, 9, 9)));
+        for (int round = 0; round < 3; round++) {
+            due("marks of train 0", x.clusters(0, 0), 1);
+            due("marks of train 1", x.clusters(1, 0), 2);
+            due("spaces of train 1", x.clusters(1, 1), 1);
+            due("spaces of train 0", x.clusters(0, 1), 2);
+            due("marks of train 2", x.clusters(2, 0), 1);
+        }
+        due("the number", x.learn(1), 0);
+        dueProtocol(x, 0, WIDTH, 1000, 500, 100, 200, 400, 3, 0, 0);
+    }
+
     @Says("- `what`: 0 clusters of marks, 1 of spaces")
     static void promise07_what0Or1() {
         between(RICH, (x, what) -> x.clusters(0, what), 0, 1, 1, 2);

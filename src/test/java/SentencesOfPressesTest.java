@@ -231,6 +231,15 @@ public final class SentencesOfPressesTest extends Sentences {
         pressed(BIT.then(frames(1, NOTHING, NOTHING)), 2, 1);
     }
 
+    @Says("Otherwise it is stray")
+    static void presses_aFrameLongerThanAnyCodeIsStray() {
+        for (int size : new int[] {35, 37, 101}) {
+            Setup held = BIT.then(frames(1, 1)).then(train(0, 20000)).then(longTrain(0, size, 100));
+            pressed(held, 1, 2);
+            pressed(held.then(frames(1)), 1, 2, 1);
+        }
+    }
+
     @Says("so is a short frame that continues nothing.")
     static void presses_aShortFrameThatContinuesNothingIsStray() {
         pressed(BIT_SHORT.then(frames(SHORT_FRAME)), 1);

@@ -22,7 +22,28 @@ public final class SentencesOfProtocolsTest extends Sentences {
         dueTrain(x, 0, durations);
     }
 
-    // ---- The public face, Errors
+    // ---- What it is, The public face
+
+    @Says("An object is used for at most 512 calls after it has been made")
+    static void whatItIs_the512thCallIsStillAnswered() {
+        Setup calls = x -> {
+            for (int i = 1; i <= 200; i++) {
+                x.append(0, i);
+                x.append(1, 2 * i);
+            }
+            for (int i = 1; i <= 111; i++) {
+                x.appendCharacter(32);
+            }
+        };
+        answers(calls, x -> x.duration(1, 199), 400);
+        answers(calls, x -> x.count(2), 111);
+        answers(calls, x -> x.appendCharacter(32), 112);
+        answers(calls, x -> x.append(2, 60000), 1);
+        answers(calls, x -> x.append(0, 1), CAPACITY);
+        answers(calls, x -> x.addProtocol(0, 1, 0, 0), 0);
+        answers(calls, x -> x.load(), 0);
+        answers(calls, x -> x.undo(), 5);
+    }
 
     @Says("public static final int INVALID_ARGUMENT = -1; public static final int ILLEGAL_STATE = -2; "
             + "public static final int CAPACITY_EXCEEDED = -3; public static final int NONE = -9;")

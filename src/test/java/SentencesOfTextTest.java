@@ -30,7 +30,7 @@ public final class SentencesOfTextTest extends Sentences {
 
     /** "proto" with other numbers at one place: KIND is 0, H 1, .. REPETITION 8. */
     private static String proto(int kind, int place, String number) {
-        String[] numbers = kind == 2 ? "2 900 450 100 0 0 4 0 0".split(" ") : (kind + " 900 450 100 100 300 4 0 0").split(" ");
+        String[] numbers = (kind + " 900 450 100 " + (kind == 2 ? "0 0" : "100 300") + " 4 0 0").split(" ");
         numbers[place] = number;
         return "proto " + String.join(" ", numbers) + ";";
     }
@@ -149,6 +149,16 @@ public final class SentencesOfTextTest extends Sentences {
             "aproto", "rproto", "p", "pro", "buttonproto"}) {
             error(word + " 0 900 450 100 100 300 4 0 0;", 0);
             error(PROTO + word, 34);
+        }
+        for (String word : new String[] {"proto", "button"}) {
+            for (int i = 0; i < word.length(); i++) {
+                for (char letter : new char[] {'a', 'z', (char) (word.charAt(i) - 1), (char) (word.charAt(i) + 1)}) {
+                    error(word.substring(0, i) + letter + word.substring(i + 1) + " 0", 0);
+                    error(word.substring(0, i) + letter + word.substring(i) + " 0", 0);
+                }
+            }
+            error(word + "a 0", 0);
+            error(word + "z 0", 0);
         }
         error("pro to 0 900 450 100 100 300 4 0 0;", 0);
         error(PROTO + "but ton 0 5;", 34);

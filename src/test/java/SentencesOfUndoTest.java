@@ -7,22 +7,37 @@ public final class SentencesOfUndoTest extends Sentences {
         x.addButton(0, 6);
         x.send(0, 0, 7, 60);
         x.append(1, 70);
-        x.setHold(30000);
+        x.append(2, 80);
     }).then(text("proto 1 900 450 100 100 300 4 0 0;"));
+    /** Five saved states, with settings that are not those of the beginning. */
+    private static final Setup SET = NEW.then(x -> {
+        x.setGap(2000);
+        x.setHold(3000);
+        x.setTolerance(4);
+        x.addProtocol(WIDTH, 5, HIGHEST, SHORT);
+        x.send(0, 0, 7, 60);
+    });
 
     public static void main(String[] args) {
         runAll(SentencesOfUndoTest.class);
     }
 
     /** The call saves one state, and undo() makes the object show what it showed before. */
-    private static void savedBy(Setup setup, Setup call) {
+    private static void savedBy(Setup setup, Call call) {
         int before = made(setup).count(3);
-        answers(setup.then(call), x -> x.count(3), before + 1);
-        answers(setup.then(call), x -> x.undo(), before);
+        due("that it is no error", Math.min(call.on(made(setup)), 0), 0);
+        Setup called = setup.then(call::on);
+        answers(called, x -> x.count(3), before + 1);
+        answers(called, x -> x.undo(), before);
         unchangedBy(setup, x -> {
             call.on(x);
             return x.undo();
         });
+    }
+
+    private static void savedBy(Call call) {
+        savedBy(FIVE, call);
+        savedBy(SET, call);
     }
 
     private static void savesNothing(Setup setup, Setup call) {
@@ -43,56 +58,71 @@ public final class SentencesOfUndoTest extends Sentences {
 
     @Says("Every successful call of addProtocol(),")
     static void undo_addProtocolSaves() {
-        savedBy(FIVE, x -> x.addProtocol(PHASE, 16, HIGHEST, SHORT));
+        savedBy(x -> x.addProtocol(PHASE, 16, HIGHEST, SHORT));
         savedBy(NEW, x -> x.addProtocol(DISTANCE, 1, HIGHEST, WHOLE));
     }
 
     @Says("setLengths(),")
     static void undo_setLengthsSaves() {
-        savedBy(FIVE, x -> x.setLengths(0, 50, 51, 52, 53, 54));
-        savedBy(FIVE, x -> x.setLengths(0, 9000, 4500, 560, 560, 1690));
+        savedBy(x -> x.setLengths(0, 50, 51, 52, 53, 54));
+        savedBy(x -> x.setLengths(0, 9000, 4500, 560, 560, 1690));
+        savedBy(NEW.then(x -> x.addProtocol(PHASE, 3, LOWEST, SHORT)), x -> x.setLengths(0, 50, 51, 52, 0, 0));
     }
 
     @Says("learn(),")
     static void undo_learnSaves() {
-        savedBy(LEARNABLE.then(x -> x.undo()).then(train(0, 200)), x -> x.learn(0));
+        savedBy(LEARNABLE, x -> x.learn(0));
+        savedBy(NEW.then(x -> {
+            x.setGap(5000);
+            x.setTolerance(4);
+            x.addProtocol(WIDTH, 3, LOWEST, TOGGLED);
+            x.send(1, 0, 2, 60);
+        }), x -> x.learn(1));
     }
 
     @Says("addButton(),")
     static void undo_addButtonSaves() {
-        savedBy(FIVE, x -> x.addButton(0, 9));
+        savedBy(x -> x.addButton(0, 9));
     }
 
     @Says("load(),")
     static void undo_loadSaves() {
-        Setup empty = FIVE.then(x -> x.clearText());
-        savedBy(empty, x -> x.load());
-        savedBy(empty, text("proto 2 50 50 50 0 0 1 0 0;button 0 1;").then(x -> x.load()));
+        Setup text = text("proto 2 50 50 50 0 0 1 0 0;button 0 1;");
+        for (Setup setup : new Setup[] {FIVE.then(x -> x.clearText()), SET}) {
+            savedBy(setup, x -> x.load());
+            savedBy(setup, x -> {
+                text.on(x);
+                return x.load();
+            });
+        }
     }
 
     @Says("setGap(),")
     static void undo_setGapSaves() {
-        savedBy(FIVE, x -> x.setGap(1000));
+        savedBy(x -> x.setGap(1000));
         savedBy(FIVE, x -> x.setGap(10000));
+        savedBy(SET, x -> x.setGap(2000));
     }
 
     @Says("setHold(),")
     static void undo_setHoldSaves() {
-        savedBy(FIVE, x -> x.setHold(1000));
-        savedBy(FIVE, x -> x.setHold(30000));
+        savedBy(x -> x.setHold(1000));
+        savedBy(FIVE, x -> x.setHold(40000));
+        savedBy(SET, x -> x.setHold(3000));
     }
 
     @Says("setTolerance(),")
     static void undo_setToleranceSaves() {
-        savedBy(FIVE, x -> x.setTolerance(0));
+        savedBy(x -> x.setTolerance(0));
         savedBy(FIVE, x -> x.setTolerance(20));
+        savedBy(SET, x -> x.setTolerance(4));
     }
 
     @Says("and of the methods of the section \"trains\" that say that they change a train")
     static void undo_appendSaves() {
         for (int slot = 0; slot < 3; slot++) {
             int of = slot;
-            savedBy(FIVE, x -> x.append(of, 60));
+            savedBy(x -> x.append(of, 60));
         }
         savedBy(NEW, x -> x.append(0, 60));
     }
@@ -101,7 +131,7 @@ public final class SentencesOfUndoTest extends Sentences {
     static void undo_sendSaves() {
         for (int slot = 0; slot < 3; slot++) {
             int of = slot;
-            savedBy(FIVE, x -> x.send(of, 0, 5, 60));
+            savedBy(x -> x.send(of, 0, 5, 60));
         }
     }
 
@@ -109,7 +139,7 @@ public final class SentencesOfUndoTest extends Sentences {
     static void undo_sendShortSaves() {
         for (int slot = 0; slot < 3; slot++) {
             int of = slot;
-            savedBy(FIVE, x -> x.sendShort(of, 0, 60));
+            savedBy(x -> x.sendShort(of, 0, 60));
         }
     }
 
@@ -117,8 +147,8 @@ public final class SentencesOfUndoTest extends Sentences {
     static void undo_clearSaves() {
         for (int slot = 0; slot < 3; slot++) {
             int of = slot;
-            // train 2 is empty: the call succeeds, and changes nothing
-            savedBy(FIVE, x -> x.clear(of));
+            // some of these trains are empty: the call succeeds, and changes nothing
+            savedBy(x -> x.clear(of));
         }
     }
 
@@ -126,14 +156,16 @@ public final class SentencesOfUndoTest extends Sentences {
     static void undo_overlaySaves() {
         savedBy(FIVE, x -> x.overlay(0, 1, 50));
         savedBy(FIVE, x -> x.overlay(1, 0, 60000));
+        savedBy(FIVE, x -> x.overlay(2, 1, 0));
+        savedBy(SET.then(times(2, x -> x.undo())).then(train(0, 70)).then(train(1, 70)), x -> x.overlay(1, 0, 70));
     }
 
     @Says("and of the methods of the section \"trains\" that say that they change a train")
     static void undo_distortSaves() {
         for (int slot = 0; slot < 3; slot++) {
             int of = slot;
-            savedBy(FIVE, x -> x.distort(of, 30, 1));
-            savedBy(FIVE, x -> x.distort(of, 0, 0));
+            savedBy(x -> x.distort(of, 30, 1));
+            savedBy(x -> x.distort(of, 0, 0));
         }
     }
 
@@ -151,7 +183,7 @@ public final class SentencesOfUndoTest extends Sentences {
         savesNothing(FIVE, x -> x.send(0, 0, 16, 60));
         savesNothing(FIVE, x -> x.sendShort(0, 1, 60));
         savesNothing(FIVE, x -> x.clear(3));
-        savesNothing(FIVE, x -> x.overlay(0, 2, 0));
+        savesNothing(FIVE, x -> x.overlay(0, 0, 0));
         savesNothing(FIVE, x -> x.distort(0, 31, 0));
     }
 
@@ -197,24 +229,26 @@ public final class SentencesOfUndoTest extends Sentences {
 
     @Says("saves the state that preceded it: everything")
     static void undo_allIsRestored() {
-        PulseRemote x = made(FIVE);
-        x.load();
-        x.clear(0);
-        x.setHold(2000);
-        x.setGap(3000);
-        x.setTolerance(4);
-        x.append(2, 9);
+        PulseRemote x = made(FIVE.then(y -> {
+            y.load();
+            y.clear(0);
+            y.clear(2);
+            y.setHold(2000);
+            y.setGap(3000);
+            y.setTolerance(4);
+        }));
         for (int left = 5; left >= 0; left--) {
             due("undo()", x.undo(), left);
         }
         dueProtocol(x, 0, DISTANCE, 9000, 4500, 560, 560, 1690, 4, LOWEST, TOGGLED);
+        due("protocols", x.count(0), 1);
         due("buttons", x.count(1), 1);
         due("the identity", x.button(0, 1), 6);
         due("train 0", x.length(0), 11);
         dueTrain(x, 1, 70);
-        dueTrain(x, 2);
+        dueTrain(x, 2, 80);
         due("the gap", x.setGap(1000), 10000);
-        due("the hold", x.setHold(1000), 30000);
+        due("the hold", x.setHold(1000), 40000);
         due("the tolerance", x.setTolerance(0), 20);
     }
 
